@@ -10,13 +10,18 @@ final class Checks {
         void run();
     }
 
+    private final String title;
     private int wrong;
+
+    Checks(String title) {
+        this.title = title;
+    }
 
     void due(String what, Object want, Call call) {
         String got = told(call);
         if (!got.equals(String.valueOf(want))) {
             wrong++;
-            System.out.println(what + " answered " + got + ", due is " + want);
+            System.out.println(title + ": " + what + " answered " + got + ", due is " + want);
         }
     }
 
@@ -24,45 +29,51 @@ final class Checks {
         due(what, "done", call(act));
     }
 
-    void outside(String what, Call call) {
-        due(what, "throws.IndexOutOfBoundsException", call);
-    }
-
     void outside(String what, Act act) {
-        outside(what, call(act));
-    }
-
-    void unready(String what, Call call) {
-        due(what, "throws.IllegalStateException", call);
+        due(what, "throws.IndexOutOfBoundsException", call(act));
     }
 
     void unready(String what, Act act) {
-        unready(what, call(act));
-    }
-
-    void refused(String what, Call call) {
-        due(what, "throws.IllegalArgumentException", call);
+        due(what, "throws.IllegalStateException", call(act));
     }
 
     void refused(String what, Act act) {
-        refused(what, call(act));
+        due(what, "throws.IllegalArgumentException", call(act));
     }
 
-    /** OUT has just these octets; asks for each by out() and for all by outs(). */
+    /** OUT has just these octets. */
     void dueOut(String what, byte[] want, DigestStack x) {
-        for (int i = 0; i < want.length; i++) {
-            int at = i;
-            due(what + ", out(" + i + ")", want[i] & 255, () -> x.out(at));
-        }
-        due(what + ", out behind the last", DigestStack.NONE, () -> x.out(want.length));
-        for (int i = 0; i < want.length + 8; i += 8) {
+        int size = want.length;
+        // All of a long OUT would be more calls than an object is used for.
+        int step = 8 * (1 + size / 640);
+        for (int i = 0; i < size; i += step) {
             int at = i;
             due(what + ", outs(" + i + ")", Reference.eight(want, i), () -> x.outs(at));
         }
+        if (size > 0) {
+            due(what + ", out of the last", want[size - 1] & 255, () -> x.out(size - 1));
+        }
+        due(what + ", out behind the last", DigestStack.NONE, () -> x.out(size));
+    }
+
+    /** THE TAPE has just these octets; stream 3 begins anew for it, and OUT becomes another. */
+    void dueTape(String what, byte[] want, DigestStack x) {
+        done(what + ", begin for the tape", () -> x.begin(3, 1));
+        due(what + ", size of the tape", (long) want.length, () -> x.update(3));
+        due(what + ", finish for the tape", 32, () -> x.finish(3));
+        dueOut(what + ", digest of the tape", Reference.digest(1, want), x);
+    }
+
+    /** The REGISTERS have just these octets; OUT becomes another. */
+    void dueRegisters(String what, byte[] key, byte[] salt, byte[] info, DigestStack x) {
+        due(what + ", draw", 28, () -> x.draw(0));
+        dueOut(what + ", draw", Reference.draw(0, salt, key), x);
+        due(what + ", spread", 33, () -> x.spread(1, 33));
+        dueOut(what + ", spread", Reference.spread(1, key, info, 33), x);
     }
 
     void end() {
-        System.out.println(wrong == 0 ? "all answers are as due" : wrong + " answers are not as due");
+        System.out.println(title + ": " + (wrong == 0 ? "all answers are as due" : wrong + " answers are not as due"));
         if (wrong != 0) {
             System.exit(1);
         }

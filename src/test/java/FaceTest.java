@@ -10,7 +10,7 @@ import java.util.TreeSet;
 
 /** The public face is the document's, and no other member can be seen from outside. */
 public final class FaceTest {
-    private static final Checks CHECKS = new Checks();
+    private static final Checks CHECKS = new Checks("the face");
     private static final String OUTSIDE = "java.lang.IndexOutOfBoundsException";
     private static final String REFUSED = "java.lang.IllegalArgumentException";
     private static final String UNREADY = "java.lang.IllegalStateException";

@@ -124,6 +124,26 @@ final class Reference {
         }
     }
 
+    static void hold(DigestStack x, int register, byte[] row) {
+        feed(x, row);
+        x.hold(register);
+    }
+
+    /** An object whose REGISTERS are these. */
+    static DigestStack holding(byte[] key, byte[] salt, byte[] info) {
+        DigestStack x = new DigestStack();
+        hold(x, 0, key);
+        hold(x, 1, salt);
+        hold(x, 2, info);
+        return x;
+    }
+
+    /** Numbers that are not low .. high: the nearest, some that a narrower type would take for one that is. */
+    static int[] outside(int low, int high) {
+        return new int[] {low - 1, high + 1, low - 256, high + 256, low + 65536, Integer.MIN_VALUE + low,
+            Integer.MIN_VALUE, Integer.MAX_VALUE};
+    }
+
     static long lowestFirst(byte[] row, int from, int n) {
         long octets = 0;
         for (int i = n - 1; i >= 0; i--) {

@@ -2,7 +2,7 @@ import java.lang.management.ManagementFactory;
 
 /** Calls make no objects: all calls of a run live in one room, which is never swept. */
 public final class RoomTest {
-    private static final Checks CHECKS = new Checks();
+    private static final Checks CHECKS = new Checks("the room");
     private static final com.sun.management.ThreadMXBean BEAN =
             (com.sun.management.ThreadMXBean) ManagementFactory.getThreadMXBean();
 
